@@ -110,14 +110,16 @@ public final class PagesByLevels {
             return BAD;
         }
         tried.startAnew();
-        if (!c.isBroken()) {
-            return NONE;
-        }
-        for (int x = 0; x < c.count; x++) {
+        int found = c.firstBroken();
+        for (int x = 0; x < c.count && found != 0; x++) {
             for (int y = 0; y < c.count; y++) {
-                int v = c.mayHave(x, y) ? mendingEntry(c, x, y) : NONE;
-                if (v != NONE) {
-                    return 400 * x + 20 * y + v;
+                for (int v = -TOP_ENTRY; v <= TOP_ENTRY && c.mayHave(x, y); v++) {
+                    tried.open(c, x, y, v);
+                    found = c.stillBroken(found);
+                    tried.close();
+                    if (found == 0) {
+                        return 400 * x + 20 * y + TOP_ENTRY + v;
+                    }
                 }
             }
         }
@@ -468,19 +470,6 @@ public final class PagesByLevels {
         }
     }
 
-    /** 9 and the first v that mends the COMPLEX as ENTRY of y in EDGE of x, or NONE. */
-    private int mendingEntry(Complex c, int x, int y) {
-        for (int v = -TOP_ENTRY; v <= TOP_ENTRY; v++) {
-            tried.open(c, x, y, v);
-            boolean mended = !c.isBroken();
-            tried.close();
-            if (mended) {
-                return TOP_ENTRY + v;
-            }
-        }
-        return NONE;
-    }
-
     private int ofPage(int complex, int way, int p, int r, int level, int degree, boolean turning) {
         Complex c = complexAt(complex);
         if (c == null || !isWay(way) || !isPrime(p) || r < 0 || r > TOP_PAGE || !isLevel(level) || !isDegree(degree)) {
@@ -630,8 +619,9 @@ public final class PagesByLevels {
         /** 1 and 16 x and y of the first x and y for which it is BROKEN, or 0. */
         int firstBroken() {
             for (int x = 0; x < count; x++) {
-                for (int y = 0; y < count; y++) {
-                    if (degree(y) == degree(x) - 2 && edgeOfEdge(x, y) != 0) {
+                int degree = degree(x) - 2;
+                for (int y = 0; y < count && degree >= 0; y++) {
+                    if (degree(y) == degree && edgeOfEdge(x, y) != 0) {
                         return 1 + 16 * x + y;
                     }
                 }
@@ -639,12 +629,21 @@ public final class PagesByLevels {
             return 0;
         }
 
+        /** What was found earlier, if that is so yet: it mostly is, and looking there alone is soon done. */
+        int stillBroken(int earlier) {
+            int pair = earlier - 1;
+            return pair >= 0 && edgeOfEdge(pair / 16, pair % 16) != 0 ? earlier : firstBroken();
+        }
+
         int edgeOfEdge(int x, int y) {
+            if (!has(x) || !has(y)) {
+                return 0;
+            }
             int together = 0;
             for (int between = 0; between < count; between++) {
-                int first = edge(x, between);
+                int first = edges[x * CELLS + between];
                 if (first != 0) {
-                    together += first * edge(between, y);
+                    together += first * edges[between * CELLS + y];
                 }
             }
             return together;
@@ -755,7 +754,6 @@ public final class PagesByLevels {
             complex = c;
             way = byWay;
             prime = p;
-            Arrays.fill(lasts, NONE);
             Arrays.fill(owners, NONE);
             putInOrder();
             for (int place = 0; place < c.count; place++) {

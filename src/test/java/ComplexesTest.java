@@ -47,6 +47,13 @@ public final class ComplexesTest {
         x.cell(0, 0, 0, 0);
         x.cell(0, 1, 0, 0);
         Due.due("an ENTRY after clear", x.entryOf(0, 1, 0), 10);
+        for (int round = 0; round < 2; round++) {
+            x.clear(2);
+            x.cell(2, 1, 0, 0);
+            x.cell(2, 0, 0, 0);
+            Due.due("an ENTRY of a later CELL after clear", x.entryOf(2, 0, 1), 10);
+            x.entry(2, 0, 1, 6);
+        }
     }
 
     private static void cell() {

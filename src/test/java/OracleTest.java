@@ -29,6 +29,9 @@ public final class OracleTest {
         for (int round = 0; round < 200; round++) {
             times(round % 4 == 3 ? Model.any() : Model.unbroken(2 + upTo(2)), Model.unbroken(2 + upTo(3)));
         }
+        for (int round = 0; round < 100; round++) {
+            oneAfterAnother();
+        }
         for (int round = 0; round < 3000; round++) {
             faultOf(Texts.nearlyText());
         }
@@ -110,6 +113,28 @@ public final class OracleTest {
             for (int i = 0; i <= want.size(); i++) {
                 Due.due("wholeAt", x.wholeAt(1, way, m.level[way][c], degree, i),
                     i < want.size() ? want.get(i).longValueExact() : -3);
+            }
+        }
+    }
+
+    /** What was found for one COMPLEX must not be seen in what is found for the next one. */
+    private static void oneAfterAnother() {
+        PagesByLevels x = new PagesByLevels();
+        for (int round = 0; round < 5; round++) {
+            Model m = Model.unbroken(1 + upTo(11));
+            int p = PRIMES[upTo(3)];
+            int[] partners = m.partners(0, p);
+            m.put(x, 0);
+            for (int c = 0; c < m.n; c++) {
+                Due.due("goes, one after another", x.goes(0, 0, p, c), partners[c] < 0 ? -3 : partners[c]);
+            }
+            for (int degree = 0; degree < 5; degree++) {
+                List<BigInteger> want = m.whole(0, -1, degree);
+                Due.due("left, one after another", x.left(0, p, degree), m.left(p, degree));
+                for (int i = 0; i < 2; i++) {
+                    Due.due("whole, one after another", x.whole(0, degree, i),
+                        i < want.size() ? want.get(i).longValueExact() : -3);
+                }
             }
         }
     }

@@ -208,6 +208,12 @@ public final class RowsTest {
         x.put(1, 3, -2);
         Due.due("it may become BROKEN", x.take(1, 0, 0, 4), 1);
         Due.due("it is", x.broken(0), 1 + 16 * 4);
+        x.sheet(1, 1, 7);
+        x.put(1, 0, 99);
+        x.put(1, 4, (1L << 32) + 7);
+        x.put(1, 6, 99);
+        Due.due("what stands ahead and behind does not count", x.take(1, 1, 0, 4), 1);
+        Due.due("ints are narrowed when they are put", x.entryOf(0, 4, 3), 17);
     }
 
     private static void takeRefused() {
@@ -217,10 +223,12 @@ public final class RowsTest {
         x.sheet(2, 2, 40);
         x.put(0, 0, 1);
         for (int v : new int[] {10, -10, 127, -128}) {
-            x.put(0, 1, v);
-            Due.due("take of " + v, x.take(0, 0, 0, 3), -1);
+            for (int place = 0; place < 2; place++) {
+                x.put(0, place, v);
+                Due.due("take of " + v, x.take(0, 0, 0, 3), -1);
+                x.put(0, place, 1);
+            }
         }
-        x.put(0, 1, 0);
         x.put(0, 2, 1);
         Due.due("take of one at another LEVEL", x.take(0, 0, 0, 3), -1);
         x.put(0, 2, 0);
