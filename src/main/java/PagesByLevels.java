@@ -1141,6 +1141,9 @@ public final class PagesByLevels {
                 if (!readsNumber(99)) {
                     return false;
                 }
+            } else if (number <= TOP_ENTRY && isAtEnd()) {
+                // A * may come yet: whether this N is a CELL's number is not told.
+                return fails(place);
             }
             int x = complex.count - 1;
             if (!complex.mayHave(x, number) || (told >> number & 1) != 0) {

@@ -17,6 +17,7 @@ public final class ComplexesTest {
         text();
         faults();
         faultsOfEntries();
+        faultsAtTheEnd();
         textEdges();
         Due.end("ComplexesTest");
     }
@@ -321,6 +322,33 @@ public final class ComplexesTest {
         fault("0@0 1;1@5 0:0;", 12);
         fault("0;1:0 0;", 6);
         fault("0;1:0:0;", 5);
+    }
+
+    /** THE TAPE ends behind an ENTRY's N: more must come, if a * or what follows a CELL's number may. */
+    private static void faultsAtTheEnd() {
+        fault(" 3 : - 4", 8);
+        fault("3:4  ", 5);
+        fault("0;1:1", 5);
+        fault("0;1:5 ", 6);
+        fault("0;1:09", 6);
+        fault("0;1:00", 6);
+        fault("0;2:0", 5);
+        fault("0@1;1:0", 7);
+        fault("0;1:0,0", 7);
+        fault("0;1:0,-0 ", 9);
+        // What is more than 9 tells no "how often", so that it can be a CELL's number alone.
+        fault("0;1:10", 4);
+        fault("0;1: 12 ", 5);
+        fault("0;1:-99", 5);
+        fault("0;0;0;0;0;0;0;0;0;0;0;1:10", 26);
+        fault("0;0;0;0;0;0;0;0;0;0;1;1:10", 24);
+        fault("0;0;0;0;0;0;0;0;0;0;0;1:10,10", 27);
+        fault("0;1:000", 4);
+        // Behind a *, N is a CELL's number.
+        fault("0;1:2*1", 6);
+        fault("0;1:2* 0", 8);
+        fault("0;1:2*0,2*0", 10);
+        fault("0;1:0*0 ", 8);
     }
 
     private static void textEdges() {

@@ -33,7 +33,10 @@ public final class OracleTest {
             oneAfterAnother();
         }
         for (int round = 0; round < 3000; round++) {
-            faultOf(Texts.nearlyText());
+            String text = Texts.nearlyText();
+            for (int length = round % 10 == 0 ? 0 : text.length(); length <= text.length(); length++) {
+                faultOf(text.substring(0, length));
+            }
         }
         Due.end("OracleTest");
     }
@@ -388,6 +391,9 @@ public final class OracleTest {
                     }
                     often = values.get(at);
                     at += 2;
+                } else if (number(9) && values.get(at + 1) == -1) {
+                    at++;
+                    return false;
                 }
                 int y = number(11) ? values.get(at) : 12;
                 if (y >= x || !model.may(x, y) || told[y]) {
