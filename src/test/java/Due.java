@@ -1,11 +1,44 @@
+import java.io.IOException;
+import java.io.UncheckedIOException;
 import java.nio.charset.StandardCharsets;
+import java.nio.file.Files;
+import java.nio.file.Path;
 
 /** What the tests share: answers compared with those that are due, texts fed to THE TAPE. */
 final class Due {
     private static int right = 0;
     private static int wrong = 0;
+    /** The sentence of the document that is looked at, and how many answers had been looked at before it. */
+    private static String sentence = "";
+    private static int before = 0;
+    private static String document = null;
 
     private Due() {
+    }
+
+    /** What follows is due by this sentence, which must stand in the document word by word. */
+    static void sentence(String words) {
+        endOfSentence();
+        isTrue("the document says: " + words, document().contains(words));
+        sentence = words;
+        before = right + wrong;
+    }
+
+    private static void endOfSentence() {
+        String ended = sentence;
+        sentence = "";
+        isTrue("an answer is looked at for: " + ended, ended.isEmpty() || right + wrong > before);
+    }
+
+    private static String document() {
+        if (document == null) {
+            try {
+                document = Files.readString(Path.of("../shared/DOC.md")).replaceAll("\\s+", " ");
+            } catch (IOException e) {
+                throw new UncheckedIOException(e);
+            }
+        }
+        return document;
     }
 
     static void due(String what, long got, long want) {
@@ -13,7 +46,15 @@ final class Due {
             right++;
         } else {
             wrong++;
-            System.out.println(what + " answered " + got + ", due is " + want);
+            System.out.println((sentence.isEmpty() ? "" : "\"" + sentence + "\" ") + what + " answered " + got
+                + ", due is " + want);
+        }
+    }
+
+    static void same(String what, String got, String want) {
+        due(what, got.equals(want) ? 1 : 0, 1);
+        if (!got.equals(want)) {
+            System.out.println("  it is  " + got + "\n  due is " + want);
         }
     }
 
@@ -23,6 +64,7 @@ final class Due {
 
     /** Ends the test: exit code 1 if an answer was wrong, or if none was looked at. */
     static void end(String test) {
+        endOfSentence();
         System.out.println(test + ": " + right + " answers as due, " + wrong + " not");
         if (wrong != 0 || right == 0) {
             System.exit(1);

@@ -24,6 +24,7 @@ public final class RulesTest {
         Due.isTrue("no Exact", !code.contains("Exact"));
         Due.isTrue("no lists of a made class", !code.contains("<>"));
         Due.isTrue("no annotation", !Pattern.compile("@[A-Za-z]").matcher(code).find());
+        headings(text);
         library(code);
         classes(code);
         methods(code);
@@ -32,6 +33,21 @@ public final class RulesTest {
 
     private static String withoutRemarks(String text) {
         return text.replaceAll("(?s)/\\*.*?\\*/", "").replaceAll("//[^\\n]*", "");
+    }
+
+    private static void headings(String text) {
+        String[][] calls = {{"complexes", "clear", "cell", "entry", "entryOf", "of", "broken", "mend", "feed", "text"},
+            {"reduced, pages", "goes", "reduced", "page", "turns", "stands", "left", "whole", "wholeAt"},
+            {"made, tried", "times", "part", "would", "trials"},
+            {"rows, what is kept", "sheet", "put", "item", "copy", "lay", "take", "many", "keep", "again"}};
+        int ahead = 0;
+        for (String[] group : calls) {
+            for (int i = 0; i < group.length; i++) {
+                int at = text.indexOf(i == 0 ? "// ---- " + group[0] + "\n" : "public int " + group[i] + "(");
+                Due.isTrue(group[i] + " stands in its order", at > ahead);
+                ahead = at;
+            }
+        }
     }
 
     private static void library(String code) {
