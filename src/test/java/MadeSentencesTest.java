@@ -4,6 +4,7 @@ public final class MadeSentencesTest {
         timesOrder();
         timesAdds();
         timesEdgeOfFirst();
+        timesEdgeOfFirstWhole();
         timesEdgeOfSecond();
         timesOntoOneOfBoth();
         timesCells();
@@ -52,6 +53,8 @@ public final class MadeSentencesTest {
         Due.same("all of the first", product("4@9;", "0;"), "4@9 9:0,;");
         Due.same("all of the second", product("0;", "4@9;"), "4@9 9:0,;");
         Due.same("each by its WAY", product("2@1 2;", "1@3 5;"), "3@4 7:0,;");
+        Due.same("of two and two", product("0@1 2;2@0 4;", "2@3 0;1@5 5;"),
+            "2@4 2:0,0,0,0,;1@6 7:0,0,0,0,;4@3 4:0,0,0,0,;3@5 9:0,0,0,0,;");
     }
 
     private static void timesEdgeOfFirst() {
@@ -64,6 +67,15 @@ public final class MadeSentencesTest {
                     Due.due("ENTRY " + v + " at like y", x.entryOf(2, 3 + i, k), 10 + (i == k ? v : 0));
                 }
             }
+        }
+    }
+
+    private static void timesEdgeOfFirstWhole() {
+        Due.sentence("that of x' in EDGE of x;");
+        String[] told = {"0;1:2*0;1:3*0;2;1:4*0;", "0;0;0;1:5*2;", "0;0;0;0;1:-1,7*3;", "0;1:0;2;3:8*2;4:-9*3;"};
+        for (String text : told) {
+            Due.same("by one CELL", product(text, "0;"), Due.shape(Due.told(text), 0));
+            Due.same("one CELL by it", product("0;", text), Due.shape(Due.told(text), 0));
         }
     }
 
@@ -188,6 +200,12 @@ public final class MadeSentencesTest {
         Due.same("with their ENTRIES", Due.shape(x, 2), "0@3 0:0,0,0,0,;0@0 0:0,0,0,0,;1@3 0:-9,9,0,0,;1@3 4:8,0,0,0,;");
         x.part(0, 1, 3, 2);
         Due.due("it may be BROKEN", x.broken(2), 1 + 16 * 3);
+        x = Due.told("0@9 0;0@0 9;0@0 0;1@5 9:2*1,3*2;");
+        x.part(0, 0, 5, 2);
+        Due.same("by WAY 0 alone", Due.shape(x, 2), "0@0 9:0,0,0,;0@0 0:0,0,0,;1@5 9:2,3,0,;");
+        x = Due.told("0@0 9;0@9 0;0@0 0;1@9 5:2*1,3*2;");
+        x.part(0, 1, 5, 2);
+        Due.same("by WAY 1 alone", Due.shape(x, 2), "0@9 0:0,0,0,;0@0 0:0,0,0,;1@9 5:2,3,0,;");
         Due.due("full ones", fullParts(), 12);
     }
 

@@ -203,6 +203,7 @@ public final class OracleTest {
         PagesByLevels x = m.made(0);
         Due.due("part", x.part(0, way, most, 1), want.n);
         Due.isTrue("what part made", Due.shape(x, 1).equals(want.shape()));
+        x = m.made(0);
         Due.due("part onto itself", x.part(0, way, most, 0), want.n);
         Due.isTrue("what part made of itself", Due.shape(x, 0).equals(want.shape()));
     }
@@ -241,6 +242,8 @@ public final class OracleTest {
         }
         Due.isTrue("what times made", Due.shape(x, 2).equals(want.shape()));
         Due.due("times of those not BROKEN is not BROKEN", x.broken(2) != 0 ? 1 : 0, a.broken() != 0 ? 1 : 0);
+        x = a.made(0);
+        b.put(x, 1);
         Due.due("times onto the second", x.times(0, 1, 1), size);
         Due.isTrue("what it made", Due.shape(x, 1).equals(want.shape()));
     }

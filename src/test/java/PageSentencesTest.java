@@ -178,6 +178,12 @@ public final class PageSentencesTest {
             Due.due("more of them than CELLS: " + i, x.whole(0, 0, i), want[i]);
         }
         Due.due("what makes nothing is FREE", x.whole(0, 1, 0), 2);
+        x = Due.told("0;0;0;1:6*1,-9*2;");
+        want = new int[] {2, 3, -3};
+        for (int i = 0; i < 3; i++) {
+            Due.due("less of them than CELLS: " + i, x.whole(0, 0, i), want[i]);
+        }
+        Due.due("nothing of it is FREE", x.whole(0, 1, 0), 0);
     }
 
     private static void greatestFactors() {
@@ -250,6 +256,11 @@ public final class PageSentencesTest {
             Due.due("of itself, by " + p, x.reduced(0, 1, p, 1, 1), 0);
         }
         Due.due("no CELLS: BAD", x.reduced(1, 0, 2, 0, 0), -1);
+        x = Due.told("0@1 2;0@2 1;1@2 2:0,1;1@3 3:2*0,1;");
+        Due.due("by WAY 0 CELL 1 is the last: 0 is left of it", x.reduced(0, 0, 3, 3, 1), 0);
+        Due.due("by WAY 0 CELL 0 is left", x.reduced(0, 0, 3, 3, 0), 1);
+        Due.due("by WAY 1 CELL 0 is the last: 0 is left of it", x.reduced(0, 1, 3, 3, 0), 0);
+        Due.due("by WAY 1 CELL 1 is left", x.reduced(0, 1, 3, 3, 1), 2);
     }
 
     private static void pagePromised() {

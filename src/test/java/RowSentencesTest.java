@@ -15,6 +15,7 @@ public final class RowSentencesTest {
         copyAsBefore();
         copyNone();
         lay();
+        layAndTakeOfAnother();
         layNone();
         takeOthers();
         takeBad();
@@ -289,6 +290,28 @@ public final class RowSentencesTest {
         x.sheet(0, 1, 12);
         Due.due("twelve", x.lay(0, 11, 0, 0), 12);
         isRow("twelve", x, 0, 1, -9, 0, 0, 0, 0, 0, 0, 0, 0, 0, 9, 0);
+    }
+
+    /** What the latest TEXT told another COMPLEX must not be seen. */
+    private static void layAndTakeOfAnother() {
+        Due.sentence("an ENTRY for each CELL");
+        PagesByLevels x = Due.told("0;0;0;1:3*1,4*2;");
+        Due.text(x, 1, "0;1:-0;");
+        x.sheet(0, 0, 4);
+        Due.due("of four", x.lay(0, 3, 0, 0), 4);
+        isRow("of four", x, 0, 0, 0, 3, 4, 0);
+        Due.due("of two", x.lay(1, 1, 0, 2), 2);
+        isRow("of two", x, 0, 0, 0, 3, -1, 0);
+        x.put(0, 0, 9);
+        Due.due("to four", x.take(0, 0, 0, 3), 2);
+        Due.same("to four", Due.shape(x, 0), "0@0 0:0,0,0,0,;0@0 0:0,0,0,0,;0@0 0:0,0,0,0,;1@0 0:9,3,-1,0,;");
+        Due.due("to two", x.take(0, 2, 1, 1), 0);
+        x.put(0, 3, 1);
+        Due.due("the last of four may not be", x.take(0, 0, 0, 3), -1);
+        Due.due("to two", x.take(0, 1, 1, 1), -1);
+        x.put(0, 2, 0);
+        Due.due("to two", x.take(0, 1, 1, 1), 1);
+        Due.due("to two", x.entryOf(1, 1, 0), 13);
     }
 
     private static void layNone() {
