@@ -14,6 +14,7 @@ public final class PageSentencesTest {
         factors();
         factorsOfTwo();
         greatestFactors();
+        factorsOneAfterAnother();
         atALevel();
         goes();
         reduced();
@@ -202,6 +203,28 @@ public final class PageSentencesTest {
         }
         Due.due("no seventh", squareOf(edges).whole(0, 0, 7), -3);
         Due.due("none that far", squareOf(edges).whole(0, 0, MAX), -3);
+    }
+
+    /** What was found for one COMPLEX must not be seen in what is found for the next one. */
+    private static void factorsOneAfterAnother() {
+        Due.sentence("the i-th FACTOR (i 1 or more; NONE: there are not so many)");
+        PagesByLevels x = new PagesByLevels();
+        for (int i = 0; i < 16; i++) {
+            int cells = 4 - i / 4;
+            int edges = 1 + i % 4;
+            int rank = Math.min(cells, edges);
+            StringBuilder text = new StringBuilder("0;".repeat(cells));
+            for (int edge = 0; edge < edges; edge++) {
+                text.append("1:2*").append(edge % cells).append(';');
+            }
+            String told = edges + " EDGES of " + cells;
+            Due.due(told, Due.text(x, 0, text.toString()), cells + edges);
+            Due.due(told + ": FREE", x.whole(0, 0, 0), cells - rank);
+            Due.due(told + ": the first FACTOR", x.whole(0, 0, 1), 2);
+            Due.due(told + ": the last FACTOR", x.whole(0, 0, rank), 2);
+            Due.due(told + ": no more", x.whole(0, 0, rank + 1), -3);
+            Due.due(told + ": FREE ones above", x.whole(0, 1, 0), edges - rank);
+        }
     }
 
     private static PagesByLevels squareOf(int[][] edges) {
